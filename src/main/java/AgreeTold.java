@@ -1,3 +1,4 @@
+import java.util.Arrays;
 import java.util.NoSuchElementException;
 
 /**
@@ -82,9 +83,7 @@ public final class AgreeTold {
     private static final int OR = 32;
     /** These words stand in the order of the kinds from DAYS to OR. */
     private static final String KEYWORDS = "days person tall event prophet purse law wish for price some all together ahead on by from ever never times most plain vague fool grand weather not and or";
-    private static final int KEYWORD_COUNT = 29;
     private static final String FACTS = "before after told";
-    private static final int FACT_COUNT = 3;
     private static final String SIGNS = "()<=+-*;";
 
     /** Codes of a FORMULA, taken from the left with a stack of rows. */
@@ -112,8 +111,8 @@ public final class AgreeTold {
     /** Far above what five levels of not and ( ) can need. */
     private static final int STACK = 64;
 
-    private final Tape tape = new Tape();
-    private final Reader reader = new Reader(tape);
+    private final Reader reader = new Reader();
+    private final Tape tape = reader.tape;
     private final Worlds worlds = new Worlds();
     private final PriceLaw priceLaw = new PriceLaw();
     private final Joint joint = new Joint();
@@ -134,8 +133,6 @@ public final class AgreeTold {
     private int pastCount;
 
     public AgreeTold() {
-        worlds.build(land, small);
-        story.begin(land);
         refreshLeft();
     }
 
@@ -856,9 +853,7 @@ public final class AgreeTold {
     private int runYear(int seed, int turns) {
         int told = 0;
         scratch.copyFrom(left);
-        for (int i = 0; i < tellings.length; i++) {
-            tellings[i] = 0;
-        }
+        Arrays.fill(tellings, 0);
         draws.begin(seed);
         for (int turn = 0; turn < turns; turn++) {
             int prophet = draws.below(land.prophets);
@@ -900,9 +895,7 @@ public final class AgreeTold {
         }
 
         void clear() {
-            for (int i = 0; i < length && i < cells.length; i++) {
-                cells[i] = 0L;
-            }
+            Arrays.fill(cells, 0L);
         }
 
         void addRange(int from, int end) {
@@ -1019,24 +1012,26 @@ public final class AgreeTold {
         final int[] places = new int[MAX_SIGNS + 1];
         /** A number's value, or a word's letters packed 5 bits each. */
         final long[] values = new long[MAX_SIGNS + 1];
-        final long[] keywords = new long[KEYWORD_COUNT];
+        private final long[] keywords = packedWords(KEYWORDS);
         int length;
         int tokens;
 
-        Tape() {
-            packWords(KEYWORDS, keywords);
-        }
-
-        static void packWords(String text, long[] into) {
+        static long[] packedWords(String text) {
+            int many = 1;
+            for (int i = 0; i < text.length(); i++) {
+                many += text.charAt(i) == ' ' ? 1 : 0;
+            }
+            long[] packed = new long[many];
             int at = 0;
-            for (int i = 0; i < text.length() && at < into.length; i++) {
+            for (int i = 0; i < text.length() && at < packed.length; i++) {
                 char sign = text.charAt(i);
                 if (sign == ' ') {
                     at++;
                 } else {
-                    into[at] = into[at] << 5 | sign - 'a' + 1;
+                    packed[at] = packed[at] << 5 | sign - 'a' + 1;
                 }
             }
+            return packed;
         }
 
         void putBytes(long bytes) {
@@ -1132,26 +1127,20 @@ public final class AgreeTold {
 
     /** Reads the tokens of a tape from the left; stops at the first that is wrong. */
     private static final class Reader {
-        final Tape tape;
-        final long[] facts = new long[FACT_COUNT];
+        final Tape tape = new Tape();
+        private final long[] facts = Tape.packedWords(FACTS);
         /** Each clause and each sign makes one code at most, so that the signs of a tape bound them. */
         final int[] codes = new int[MAX_SIGNS + 2];
         int used;
         int teller;
         /** Whether the formula read last names a person. */
         boolean naming;
-        private Land land;
+        private Land land = new Land();
         private boolean softened;
         private int at;
         private int kind;
         private long value;
         private int fault;
-
-        Reader(Tape tape) {
-            this.tape = tape;
-            land = new Land();
-            Tape.packWords(FACTS, facts);
-        }
 
         int readLand(Land fresh) {
             begin(fresh);
@@ -1454,7 +1443,7 @@ public final class AgreeTold {
 
         private void readPart(int depth) {
             int begun = kind;
-            int fact = begun == NAME ? Land.find(facts, FACT_COUNT, value) : NONE;
+            int fact = begun == NAME ? Land.find(facts, facts.length, value) : NONE;
             if (begun != NUMBER && begun != NOT && begun != '(' && fact == NONE) {
                 wrong(CANT_STAND);
             } else if (depth >= MAX_DEPTH) {
@@ -1720,6 +1709,11 @@ public final class AgreeTold {
         private int people;
         private int length = 1;
 
+        /** One day and nobody: the one future, 0. */
+        Worlds() {
+            laws.addRange(0, total);
+        }
+
         void build(Land land, int[] codes) {
             days = land.days;
             people = land.people;
@@ -1981,14 +1975,16 @@ public final class AgreeTold {
         int today = 1;
         int promises;
 
+        Story() {
+            Arrays.fill(cameEvents, NONE);
+        }
+
         void begin(Land land) {
             asked = null;
             told = 0;
             today = 1;
             promises = 0;
-            for (int i = 0; i < cameEvents.length; i++) {
-                cameEvents[i] = NONE;
-            }
+            Arrays.fill(cameEvents, NONE);
             for (int i = 0; i < purses.length; i++) {
                 purses[i] = land.purseOf(i);
             }
