@@ -1811,24 +1811,21 @@ public final class AgreeTold {
         }
 
         private long clauseCell(int code, int cell) {
+            int what = code & 15;
+            if (what == DO_TOGETHER || what == DO_AHEAD) {
+                return pairCell(code, cell);
+            }
+            if (what == DO_NOWHERE) {
+                return 0L;
+            }
             int who = code >> 4 & 15;
-            switch (code & 15) {
-                case DO_TOGETHER:
-                case DO_AHEAD:
-                    return pairCell(code, cell);
-                case DO_DURING:
-                case DO_TIMES:
-                    break;
-                default:
-                    return 0L;
-            }
-            if (who != WHO_SOME && who != WHO_ALL) {
-                return personCell(code, who, cell);
-            }
-            long bits = who == WHO_ALL ? -1L : 0L;
-            for (int person = 0; person < people; person++) {
-                long own = personCell(code, person, cell);
-                bits = who == WHO_ALL ? bits & own : bits | own;
+            boolean every = who == WHO_ALL;
+            boolean one = !every && who != WHO_SOME;
+            int end = one ? who + 1 : people;
+            long bits = every ? -1L : 0L;
+            for (int person = one ? who : 0; person < end; person++) {
+                long own = what == DO_TIMES ? timesCell(code, person, cell) : duringCell(code, person, cell);
+                bits = every ? bits & own : bits | own;
             }
             return bits;
         }
@@ -1849,10 +1846,7 @@ public final class AgreeTold {
             return bits;
         }
 
-        private long personCell(int code, int person, int cell) {
-            if ((code & 15) == DO_TIMES) {
-                return timesCell(code, person, cell);
-            }
+        private long duringCell(int code, int person, int cell) {
             int event = code >> 8 & 15;
             int low = code >> 12 & 15;
             int high = code >> 16 & 15;
