@@ -495,6 +495,20 @@ public final class PromisesTest {
         due(4, "what came bars", Texts.tell(told, "jest ann rain on 3 ;"), NONE);
         told.strike(0);
         due(8, "what came stays", told.word(0, 1, 0), 1);
+        AgreeTold longest = in("days 6 ; person p tall 1 ; event e ; event f ;");
+        for (int day = 1; day <= 6; day++) {
+            due(11, "day " + day, longest.come(0, day % 2), true);
+            due(12, "day " + day, longest.came(0, day), day % 2);
+            due(34, "the day behind " + day, longest.count(7), day + 1);
+            due(8, "left behind " + day, longest.futures(2), 64 >> day);
+        }
+        due(11, "over", longest.come(0, 0), false);
+        AgreeTold crowd = in("days 1 ; person a tall 1 ; person b tall 1 ; person c tall 1 ; person d tall 1 ; event e ; event f ;");
+        for (int person = 3; person >= 0; person--) {
+            due(34, "today", crowd.count(7), 1);
+            due(11, "person " + person, crowd.come(person, 1), true);
+        }
+        due(34, "over", crowd.count(7), 2);
     }
 
     private static void promiseAndUndo() {
@@ -648,6 +662,12 @@ public final class PromisesTest {
         due(20, "two", told.making(0, 3, 0, NONE), 2);
         due(20, "the lesser", told.making(0, 3, 0, 0), 1);
         due(20, "the greater", told.making(0, 3, 0, 1), 17);
+        due(20, "not by itself", told.making(0, 2, 0, 0), 1);
+        due(20, "not by itself", told.making(0, 2, 0, 1), 33);
+        AgreeTold pair = in(ONE_PERSON + "law not ( p e on 1 and p e on 2 ) or p e on 3 ;");
+        due(20, "two, from the least word on", pair.making(0, 3, 0, NONE), 2);
+        due(20, "two, from the least word on", pair.making(0, 3, 0, 0), 0);
+        due(20, "two, from the least word on", pair.making(0, 3, 0, 1), 16);
         told(told, "s p e on 1 ;");
         due(20, "sure", told.making(0, 1, 0, NONE), 0);
         due(20, "sure", told.making(0, 1, 0, 0), NONE);
