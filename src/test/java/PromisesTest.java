@@ -174,6 +174,8 @@ public final class PromisesTest {
         landFault(wishes + "wish s", fault(5, wishes.length()));
         String most = "days 5 ; person a tall 1 ; person b tall 1 ; person c tall 1 ; event e ; event f ; ";
         due(3, "most futures", in(most).futures(0), 32768);
+        String mostByPeople = "days 5 ; event e ; event f ; person a tall 1 ; person b tall 1 ; person c tall 1 ; ";
+        due(3, "most futures", in(mostByPeople).futures(0), 32768);
         landFault(most + "person d tall 1 ;", fault(5, most.length()));
         landFault(most + "event g ;", fault(5, most.length()));
         String one = "days 6 ; person a tall 1 ; person b tall 1 ; person c tall 1 ; person d tall 1 ; event e ; ";
@@ -791,6 +793,10 @@ public final class PromisesTest {
         due(27, "the fewest", fewest.auction(1), 12);
         AgreeTold least = in(ONE_PERSON + "wish s for 4 p e on 1 ; wish s for 2 p f on 1 and p e on 2 ; wish s for 2 p f on 1 ;");
         due(27, "the fewest of equal ones", least.auction(1), 1);
+        AgreeTold sets = in(ONE_PERSON + "wish s for 3 p e on 1 ; wish s for 3 p f on 1 ; wish s for 2 p e on 2 ; wish s for 2 p f on 2 ;");
+        // 0 with 2, 0 with 3, 1 with 2, 1 with 3: five coins each
+        due(27, "coins", sets.auction(0), 5);
+        due(27, "the least set of equal ones", sets.auction(1), 5);
         AgreeTold none = in(ONE_PERSON + "wish s for 0 p e on 1 ;");
         due(27, "no coins", none.auction(1), 0);
     }
@@ -887,6 +893,9 @@ public final class PromisesTest {
         due(32, "told", plain.year(1, 2, 0), 2);
         due(32, "left", plain.year(1, 2, 1), 16);
         due(32, "the first of equal ones", plain.year(1, 2, 2), 0);
+        // seed 0: 0, 21468, 9988, 22117: p f on 1
+        due(32, "seed 0", plain.year(0, 1, 0), 1);
+        due(32, "seed 0", plain.year(0, 1, 1), 32);
         due(32, "all is as ahead", plain.futures(2), 64);
         due(32, "all is as ahead", plain.count(6), 0);
         due(32, "all is as ahead", plain.count(10), 0);
