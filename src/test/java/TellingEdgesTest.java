@@ -371,7 +371,7 @@ public final class TellingEdgesTest {
         Edges.due("count(8)", told.count(8), 1);
         AgreeTold other = Edges.in(LAND);
         other.promise(0, 99);
-        other.promise(1, 10);
+        other.promise(1, 15);
         other.mark(0, false);
         other.undo();
         other.undo();
@@ -380,7 +380,7 @@ public final class TellingEdgesTest {
         Edges.due("kept()", other.kept(), 2);
         Edges.due("shorted()", other.shorted(), Edges.NONE);
         Edges.due("back", other.mark(0, true), true);
-        Edges.due("of whom and how tall", other.kept(), 1);
+        Edges.due("to whom and how tall", other.kept(), 0);
         Edges.due("how tall", other.shorted(), 99);
         AgreeTold early = Edges.in(LAND);
         early.mark(0, false);
@@ -393,7 +393,25 @@ public final class TellingEdgesTest {
         Edges.due("purse", early.prophet(0, 1), 0);
     }
 
+    private static void lastCall() {
+        Edges.sentence("An object is used for at most 512 calls");
+        AgreeTold told = new AgreeTold();
+        int calls = (LAND.length() + 23) / 24 + 1;
+        Edges.due("land", Texts.land(told, LAND) + told.count(11), 0);
+        // count(11) was asked twice, once by the feeding itself
+        calls += 2;
+        for (; calls + 3 <= 512; calls += 3) {
+            told.promise(0, 99);
+            Edges.due("shorted() at call " + (calls + 2), told.shorted(), 99);
+            Edges.due("undo() at call " + (calls + 3), told.undo(), true);
+        }
+        for (; calls < 512; calls++) {
+            Edges.due("futures(2) at call " + (calls + 1), told.futures(2), 64);
+        }
+    }
+
     public static void main(String[] args) {
+        lastCall();
         prophets();
         withTheLawsAlone();
         strikes();
