@@ -106,6 +106,10 @@ public final class AnswerEdgesTest {
         Edges.due("struck: it can't be", told.struck(), Edges.NONE);
         Edges.due("promise", told.promise(0, 2), 1);
         Edges.due("kept", told.kept(), 1);
+        Edges.sentence("SURE: in all that are LEFT (a reading where nothing is: see NOTES.md)");
+        Edges.due("asked(1)", told.asked(1), 1);
+        Edges.due("span", told.span(1, 0, 1), 1);
+        Edges.due("first", Edges.firstOf(told, 1, 1, 0), -2);
     }
 
     private static void asked() {
@@ -634,6 +638,20 @@ public final class AnswerEdgesTest {
         Edges.due("asked(1)", told.asked(1), 2);
         Edges.due("holds", told.holds(0, 3, 1), 4);
         Edges.due("word", told.word(0, 3, 1), 2);
+        Edges.due("the least one", Texts.land(told, "days 1 ; person p tall 1 ; event e ;"), 0);
+        Edges.due("widest", told.widest(false), Edges.NONE);
+        Edges.due("narrowest", told.widest(true), Edges.NONE);
+        Edges.due("making", told.making(0, 1, 0, Edges.NONE), 0);
+        Edges.due("two people", Texts.land(told, "days 1 ; person p tall 1 ; person q tall 1 ; event e ; event f ;"), 0);
+        Edges.due("one of them", Texts.land(told, "days 1 ; person p tall 1 ; event e ; event f ; event h ;"), 0);
+        Edges.due("widest", told.widest(false), 0);
+        Edges.due("four events", Texts.land(told, "days 1 ; person p tall 1 ; event e ; event f ; event h ; event k ;"), 0);
+        Edges.due("two of them", Texts.land(told, "days 2 ; person p tall 1 ; event e ; event f ;"), 0);
+        Edges.due("narrowest", told.widest(true), 0);
+        Edges.due("a land with two wishes", Texts.land(told, ONE + "wish s for 1 p e on 1 ; wish g for 1 p e on 1 ;"), 0);
+        Edges.due("duel(0, 3, 1)", told.duel(0, 3, 1), Edges.NONE);
+        Edges.due("a land with one of them", Texts.land(told, ONE + "wish s for 1 p e on 1 ;"), 0);
+        Edges.due("duel(0, 3, 1)", told.duel(0, 3, 1), 0);
     }
 
     public static void main(String[] args) {
